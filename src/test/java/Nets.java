@@ -1,0 +1,90 @@
+/** Makes objects that have read a configuration. */
+final class Nets {
+    /** Three nodes; the way from a to c over b is cheaper, the link 2 leads there at once. */
+    static final String TRIANGLE =
+        "node a;node b;node c;link a b 10 2 3;link b c 8 1 2;link a c 5 9 4";
+    static final int A = 0;
+    static final int B = 1;
+    static final int C = 2;
+
+    private Nets() {
+    }
+
+    static PathReservations net(String text) {
+        PathReservations net = new PathReservations();
+        if (load(net, text) < 0) {
+            throw new IllegalStateException("this text has an error: " + text);
+        }
+        return net;
+    }
+
+    static PathReservations triangle() {
+        return net(TRIANGLE);
+    }
+
+    static int load(PathReservations net, String text) {
+        write(net, text);
+        return net.load();
+    }
+
+    /** Answers the length of the buffer. */
+    static int write(PathReservations net, String text) {
+        int length = net.append(0);
+        for (int at = 0; at < text.length(); at += 8) {
+            long bytes = 0;
+            for (int i = at; i < at + 8 && i < text.length(); i++) {
+                bytes = bytes << 8 | text.charAt(i);
+            }
+            length = net.append(bytes);
+        }
+        return length;
+    }
+
+    static int nodeNamed(PathReservations net, String name) {
+        write(net, name);
+        return net.nodeNamed();
+    }
+
+    static String nodes(int number) {
+        StringBuilder text = new StringBuilder();
+        for (int i = 0; i < number; i++) {
+            text.append(i > 0 ? ";" : "").append("node ").append((char) ('a' + i));
+        }
+        return text.toString();
+    }
+
+    /** Nodes one behind the other, each with a link to the next one. */
+    static String line(int nodes, String link) {
+        StringBuilder text = new StringBuilder(nodes(nodes));
+        for (int i = 0; i + 1 < nodes; i++) {
+            text.append(";link ").append((char) ('a' + i)).append(' ').append((char) ('b' + i)).append(' ').append(link);
+        }
+        return text.toString();
+    }
+
+    /** All that can be asked about the requests, the tickets, the links and the time. */
+    static String state(PathReservations net) {
+        StringBuilder text = new StringBuilder();
+        text.append(net.time()).append(' ').append(net.revenue()).append(' ').append(net.refunds());
+        for (int i = 0; i < 5; i++) {
+            text.append(' ').append(net.setting(i));
+        }
+        for (int k = 0; k < net.linkCount(); k++) {
+            for (int what = 2; what <= 8; what++) {
+                text.append(what == 2 ? " / " : " ").append(net.linkValue(k, what));
+            }
+        }
+        for (int r = 0; r < net.requestCount(); r++) {
+            for (int what = 4; what <= 12; what++) {
+                text.append(what == 4 ? " / " : " ").append(net.requestValue(r, what));
+            }
+            text.append(' ').append(net.placeOf(r)).append(' ').append(net.pathLength(r));
+        }
+        for (int t = 0; t < net.ticketCount(); t++) {
+            for (int what = 4; what <= 7; what++) {
+                text.append(what == 4 ? " / " : " ").append(net.ticketValue(t, what));
+            }
+        }
+        return text.toString();
+    }
+}

@@ -149,7 +149,7 @@ public final class PathReservations {
         requirePair(source, target);
         requireRange(units, 1, MOST_UNITS);
         requireRange(duration, 1, LONGEST_DURATION);
-        return world.requests.isFull() ? FULL : world.makeRequest(source, target, units, duration);
+        return world.makeRequest(source, target, units, duration);
     }
 
     public int cancel(int request) throws IndexOutOfBoundsException {
@@ -367,21 +367,19 @@ public final class PathReservations {
             throws IndexOutOfBoundsException, IllegalArgumentException {
         requirePair(source, target);
         requireRange(units, 1, MOST_UNITS);
-        if (world.requests.isFull()) {
-            return FULL;
-        }
         spare.copyFrom(world);
-        return spare.passUntilActive(spare.makeRequest(source, target, units, 1));
+        int request = spare.makeRequest(source, target, units, 1);
+        return request == FULL ? FULL : spare.passUntilActive(request);
     }
 
     public int greatestNew(int source, int target) throws IndexOutOfBoundsException, IllegalArgumentException {
         requirePair(source, target);
-        if (world.requests.isFull()) {
-            return FULL;
-        }
         for (int units = GREATEST_TRIED; units >= 1; units /= 2) {
             spare.copyFrom(world);
             int request = spare.makeRequest(source, target, units, 1);
+            if (request == FULL) {
+                return FULL;
+            }
             if (spare.passUntilActive(request) != NONE) {
                 return units;
             }
@@ -686,10 +684,6 @@ public final class PathReservations {
         final int[][] pathTicket = new int[MOST_REQUESTS][LONGEST_PATH];
         int count = 0;
 
-        boolean isFull() {
-            return count >= MOST_REQUESTS;
-        }
-
         /** A new request is one that waits for its first attempt, which is due at once. */
         void add(int from, int to, int wanted, int ticks, int now) {
             source[count] = from;
@@ -836,9 +830,10 @@ public final class PathReservations {
             return NONE;
         }
 
+        /** Answers the number of the request; FULL if there can be no more. */
         int makeRequest(int source, int target, int units, int duration) {
             int request = requests.count;
-            if (requests.isFull()) {
+            if (request >= MOST_REQUESTS) {
                 return FULL;
             }
             requests.add(source, target, units, duration, time);

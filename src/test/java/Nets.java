@@ -57,30 +57,34 @@ final class Nets {
     static String line(int nodes, String link) {
         StringBuilder text = new StringBuilder(nodes(nodes));
         for (int i = 0; i + 1 < nodes; i++) {
-            text.append(";link ").append((char) ('a' + i)).append(' ').append((char) ('b' + i)).append(' ').append(link);
+            text.append(";link ").append((char) ('a' + i)).append(' ').append((char) ('b' + i));
+            text.append(' ').append(link);
         }
         return text.toString();
     }
 
-    /** All that can be asked about the requests, the tickets, the links and the time. */
+    /** Most of what can be asked about the time, the links, the requests and the tickets; some 100 calls. */
     static String state(PathReservations net) {
         StringBuilder text = new StringBuilder();
+        int links = net.linkCount();
+        int requests = net.requestCount();
+        int tickets = net.ticketCount();
         text.append(net.time()).append(' ').append(net.revenue()).append(' ').append(net.refunds());
         for (int i = 0; i < 5; i++) {
             text.append(' ').append(net.setting(i));
         }
-        for (int k = 0; k < net.linkCount(); k++) {
+        for (int k = 0; k < links; k++) {
             for (int what = 2; what <= 8; what++) {
                 text.append(what == 2 ? " / " : " ").append(net.linkValue(k, what));
             }
         }
-        for (int r = 0; r < net.requestCount(); r++) {
+        for (int r = 0; r < requests; r++) {
             for (int what = 4; what <= 12; what++) {
                 text.append(what == 4 ? " / " : " ").append(net.requestValue(r, what));
             }
             text.append(' ').append(net.placeOf(r)).append(' ').append(net.pathLength(r));
         }
-        for (int t = 0; t < net.ticketCount(); t++) {
+        for (int t = 0; t < tickets; t++) {
             for (int what = 4; what <= 7; what++) {
                 text.append(what == 4 ? " / " : " ").append(net.ticketValue(t, what));
             }

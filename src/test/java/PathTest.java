@@ -22,7 +22,8 @@ public final class PathTest {
         CHECKS.end();
     }
 
-    private static void path(String what, PathReservations net, int source, int target, int units, int price, int... links) {
+    private static void path(String what, PathReservations net, int source, int target, int units, int price,
+            int... links) {
         CHECKS.equal(what + ": price", net.cheapest(source, target, units), price);
         for (int i = 0; i < links.length; i++) {
             CHECKS.equal(what + ": link " + i, net.cheapestLink(source, target, units, i), links[i]);
@@ -142,9 +143,9 @@ public final class PathTest {
     }
 
     private static void flowThatIsTakenBack() {
-        PathReservations net = Nets.net("node s;node u;node v;node w;node x;node t;link s u 1 1 1;link u x 1 1 1;"
-            + "link x t 1 1 1;link s v 1 1 1;link v w 1 1 1;link w x 1 1 1;link u v 0 1 1;link u w 1 1 1;link w t 1 1 1;"
-            + "link s x 1 1 1");
+        PathReservations net = Nets.net("node s;node u;node v;node w;node x;node t;link s u 1 1 1;"
+            + "link u x 1 1 1;link x t 1 1 1;link s v 1 1 1;link v w 1 1 1;link w x 1 1 1;link u v 0 1 1;"
+            + "link u w 1 1 1;link w t 1 1 1;link s x 1 1 1");
         CHECKS.equal("two at a time", net.greatestFlow(0, 5), 2);
         PathReservations cross = Nets.net("node s;node a;node b;node c;node d;node t;link s a 5 1 1;link s b 5 1 1;"
             + "link a d 5 1 1;link a c 5 1 1;link b d 5 1 1;link c t 5 1 1;link d t 5 1 1");

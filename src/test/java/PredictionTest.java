@@ -103,7 +103,8 @@ public final class PredictionTest {
     /** Promise 49. */
     private static void greatestNew() {
         PathReservations net = Nets.net("node a;node b;link a b 1000 1 1");
-        int[][] due = {{1000, 512}, {512, 512}, {511, 256}, {64, 64}, {63, 32}, {5, 4}, {3, 2}, {2, 2}, {1, 1}, {0, -1}};
+        int[][] due = {{1000, 512}, {512, 512}, {511, 256}, {64, 64}, {63, 32}, {5, 4}, {3, 2}, {2, 2}, {1, 1},
+            {0, -1}};
         for (int[] pair : due) {
             net.setCapacity(0, pair[0]);
             CHECKS.equal("with " + pair[0] + " units", net.greatestNew(0, 1), pair[1]);

@@ -157,7 +157,9 @@ public final class RandomRunsTest {
             case "what12": return edged(0, 12);
             case "slot": return edged(0, 1);
             case "units": return random.nextInt(20) == 0 ? edged(0, 1000) : random.nextInt(mostUnits + 1);
-            case "units1": return random.nextInt(20) == 0 ? edged(1, 1000) : 1 + random.nextInt(1 + random.nextInt(mostUnits));
+            case "units1":
+                boolean any = random.nextInt(20) == 0;
+                return any ? edged(1, 1000) : 1 + random.nextInt(1 + random.nextInt(mostUnits));
             case "duration": return random.nextInt(6) == 0 ? edged(1, 10000) : 1 + random.nextInt(60);
             case "ticks": return random.nextInt(12) == 0 ? edged(1, 1000) : 1 + random.nextInt(9);
             case "foresight": return random.nextInt(8) == 0 ? edged(0, 2000) : random.nextInt(50);

@@ -75,6 +75,9 @@ public final class NetworkTest {
         CHECKS.equal("no more is not", net.append(0), 700);
         CHECKS.equal("it held 700 spaces", net.load(), -800);
         CHECKS.equal("an error left it empty", net.append(32), 1);
+        net.nodeNamed();
+        CHECKS.equal("692 bytes", Nets.write(net, " ".repeat(692)), 692);
+        CHECKS.equal("8 more", net.append(0x2020202020202020L), 700);
     }
 
     private static void text(String text, int answer, int error) {

@@ -151,6 +151,7 @@ public final class PathTest {
             + "link a d 5 1 1;link a c 5 1 1;link b d 5 1 1;link c t 5 1 1;link d t 5 1 1");
         CHECKS.equal("a gives way to b", cross.greatestFlow(0, 5), 10);
         CHECKS.equal("the cut", cross.smallestCut(0, 5), 3);
+        CHECKS.equal("one unit gives way, too", cross.disjointPaths(0, 5, 5), 2);
         PathReservations bridge = Nets.net("node s;node a;node b;node t;link s a 1000 1 1;link a b 1 1 1;"
             + "link b t 1000 1 1;link s b 1000 1 1;link a t 1000 1 1");
         CHECKS.equal("with a bridge", bridge.greatestFlow(0, 3), 2000);

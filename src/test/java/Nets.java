@@ -91,4 +91,40 @@ final class Nets {
         }
         return text.toString();
     }
+
+    /** All that state() leaves out, too: names, ends of links, paths; some 300 calls for nine requests. */
+    static String everything(PathReservations net) {
+        StringBuilder text = new StringBuilder();
+        int nodes = net.nodeCount();
+        for (int node = 0; node < nodes; node++) {
+            int letter = net.nameLetter(node, 0);
+            text.append(' ');
+            for (int i = 1; letter >= 0; i++) {
+                text.append((char) letter);
+                letter = net.nameLetter(node, i);
+            }
+        }
+        int links = net.linkCount();
+        for (int k = 0; k < links; k++) {
+            text.append(" / ").append(net.linkValue(k, 0)).append(' ').append(net.linkValue(k, 1));
+        }
+        int requests = net.requestCount();
+        for (int r = 0; r < requests; r++) {
+            for (int what = 0; what < 4; what++) {
+                text.append(what == 0 ? " / " : " ").append(net.requestValue(r, what));
+            }
+            int link = net.pathLink(r, 0);
+            for (int i = 1; link >= 0; i++) {
+                text.append(i == 1 ? " path " : " ").append(link);
+                link = net.pathLink(r, i);
+            }
+        }
+        int tickets = net.ticketCount();
+        for (int t = 0; t < tickets; t++) {
+            for (int what = 0; what < 4; what++) {
+                text.append(what == 0 ? " / " : " ").append(net.ticketValue(t, what));
+            }
+        }
+        return text.append(" / ").append(state(net)).toString();
+    }
 }

@@ -19,6 +19,11 @@ public final class PathTest {
         criticalLinks();
         wrongNodes();
         wrongUnits();
+        allUnits();
+        highestNumbers();
+        everyPair();
+        partOfALink();
+        shortestHold();
         CHECKS.end();
     }
 
@@ -285,5 +290,94 @@ public final class PathTest {
             CHECKS.equal("allowed, disjoint " + units, net.disjointPaths(0, 2, units), units == 0 ? 2 : 0);
             CHECKS.equal("allowed, critical " + units, net.criticalLinks(0, 1, units), units == 0 ? 1 : 0);
         }
+    }
+
+    /** As many units as are available, one more, and none; with links that have 0, 1 and 1000. */
+    private static void allUnits() {
+        for (int most : new int[] {0, 1, 2, 999, 1000}) {
+            PathReservations net = Nets.net("node a;node b;node c;link a b " + most + " 3 4;link b c 1000 5 6");
+            for (int units : new int[] {0, 1, most, Math.min(most + 1, 1000), 1000}) {
+                boolean enough = units <= most;
+                String what = units + " units of " + most;
+                path(what, net, 0, 2, units, enough ? 8 : -1, enough ? new int[] {0, 1} : new int[0]);
+                CHECKS.equal(what + ": round trip", net.roundTrip(0, 2, units), enough ? 20 : -1);
+                CHECKS.equal(what + ": hold", net.neededHold(0, 2, units), enough ? 17 : -1);
+                CHECKS.equal(what + ": disjoint", net.disjointPaths(0, 2, units), enough ? 1 : 0);
+                CHECKS.equal(what + ": reachable", net.reachable(0, units), enough ? 7 : 1);
+                CHECKS.equal(what + ": critical", net.criticalLinks(0, 2, units), enough ? 3 : 0);
+            }
+            CHECKS.equal("widest of " + most, net.widest(0, 2), most);
+            CHECKS.equal("flow of " + most, net.greatestFlow(0, 2), most);
+            CHECKS.equal("cut of " + most, net.smallestCut(0, 2), 1);
+        }
+    }
+
+    /** Bit 23 for the last link, bit 11 for the last node. */
+    private static void highestNumbers() {
+        PathReservations net = Nets.net(Nets.nodes(12) + ";link a b 1 1 1".repeat(23) + ";link k l 5 1000 50");
+        CHECKS.equal("the last node", net.reachable(10, 5), 1 << 10 | 1 << 11);
+        CHECKS.equal("from the last node", net.reachable(11, 0), 1 << 11);
+        CHECKS.equal("the last link is critical", net.criticalLinks(10, 11, 5), 1 << 23);
+        CHECKS.equal("the last link is the cut", net.smallestCut(10, 11), 1 << 23);
+        CHECKS.equal("the last link is cheapest", net.cheapestLink(10, 11, 5, 0), 23);
+        CHECKS.equal("its price", net.cheapest(10, 11, 5), 1000);
+        CHECKS.equal("its flow", net.greatestFlow(10, 11), 5);
+        CHECKS.equal("23 links", net.disjointPaths(0, 1, 1), 23);
+        CHECKS.equal("cut of 23 links", net.smallestCut(0, 1), (1 << 23) - 1);
+        net.takeDown(23);
+        CHECKS.equal("down: nothing is cut", net.smallestCut(10, 11), 0);
+        CHECKS.equal("down: nothing is critical", net.criticalLinks(10, 11, 0), 0);
+        CHECKS.equal("down: alone", net.reachable(10, 0), 1 << 10);
+        CHECKS.equal("down: no width", net.widest(10, 11), 0);
+        CHECKS.equal("down: no flow", net.greatestFlow(10, 11), 0);
+    }
+
+    /** One question after another to the same object, from every node to every other one. */
+    private static void everyPair() {
+        int[][] flows = {{0, 4, 3, 4, 0}, {0, 0, 3, 5, 0}, {0, 0, 0, 2, 0}, {0, 0, 0, 0, 0}, {0, 6, 3, 5, 0}};
+        int behindB = 1 << 2 | 1 << 4;
+        int[][] cuts = {{0, 1, 2, 1, 0}, {0, 0, 2, behindB, 0}, {0, 0, 0, 4, 0}, {0, 0, 0, 0, 0},
+            {0, 1 << 3, 2, behindB, 0}};
+        PathReservations net = Nets.net("node a;node b;node c;node d;node e;link a b 4 1 1;link b c 3 1 1;"
+            + "link c d 2 1 1;link e b 6 1 1;link b d 3 1 1");
+        for (int round = 0; round < 2; round++) {
+            for (int i = 0; i < 25; i++) {
+                int source = (round == 0 ? i : 24 - i) / 5;
+                int target = (round == 0 ? i : 24 - i) % 5;
+                if (source != target) {
+                    String what = "from " + source + " to " + target;
+                    CHECKS.equal("flow " + what, net.greatestFlow(source, target), flows[source][target]);
+                    CHECKS.equal("cut " + what, net.smallestCut(source, target), cuts[source][target]);
+                    CHECKS.same("way " + what, net.disjointPaths(source, target, 1) > 0, flows[source][target] > 0);
+                }
+            }
+        }
+    }
+
+    /** A link serves two paths, the second one with what the first one leaves. */
+    private static void partOfALink() {
+        PathReservations net = Nets.net("node s;node a;node b;node t;link s a 5 1 1;link a t 3 1 1;link a b 9 1 1;"
+            + "link b t 9 1 1");
+        CHECKS.equal("3 and 2", net.greatestFlow(0, 3), 5);
+        CHECKS.equal("the first link is full", net.smallestCut(0, 3), 1);
+        net.setCapacity(0, 20);
+        CHECKS.equal("3 and 9", net.greatestFlow(0, 3), 12);
+        CHECKS.equal("a can be reached", net.smallestCut(0, 3), 1 << 1 | 1 << 2);
+        net.setCapacity(3, 4);
+        CHECKS.equal("3 and 4", net.greatestFlow(0, 3), 7);
+        CHECKS.equal("so can b", net.smallestCut(0, 3), 1 << 1 | 1 << 3);
+        net.setCapacity(2, 4);
+        CHECKS.equal("3 and 4 on both links", net.greatestFlow(0, 3), 7);
+        CHECKS.equal("the full link next to the source", net.smallestCut(0, 3), 1 << 1 | 1 << 2);
+    }
+
+    private static void shortestHold() {
+        PathReservations net = Nets.net("node a;node b;node c;link a b 1 1 1;link b c 1 1 50");
+        CHECKS.equal("one tick there", net.neededHold(0, 1, 0), 2);
+        CHECKS.equal("one tick there and one back", net.roundTrip(0, 1, 0), 2);
+        CHECKS.equal("50 ticks there", net.neededHold(1, 2, 0), 51);
+        CHECKS.equal("the first link", net.neededHold(0, 2, 0), 102);
+        PathReservations last = Nets.net("node a;node b;node c;link a b 1 1 50;link b c 1 1 1");
+        CHECKS.equal("the first link, with its own delay", last.neededHold(0, 2, 0), 53);
     }
 }

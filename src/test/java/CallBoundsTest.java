@@ -60,6 +60,8 @@ public final class CallBoundsTest {
         queriesChangeNothing();
         errorCodesChangeNothing();
         emptiedBuffer();
+        statesOfRequests();
+        statesOfTickets();
         fullOfRequests();
         CHECKS.end();
     }
@@ -458,6 +460,58 @@ public final class CallBoundsTest {
         CHECKS.index("an exception", () -> net.request(0, 7, 1, 1));
         CHECKS.equal("it is kept", net.append(0), 1);
         CHECKS.equal("and is a name still", net.nodeNamed(), 1);
+    }
+
+    /** What holds in some states and not in others, asked in each of them. */
+    private static void statesOfRequests() {
+        int[] requests = {7, 6, 3, 1, 0, 2, 4, 8};
+        boolean[] due = {true, true, false, false, false, false, false, true};
+        boolean[] begun = {false, false, true, true, false, false, true, false};
+        boolean[] ended = {false, false, true, true, false, true, true, false};
+        boolean[] open = {true, true, true, false, false, false, false, true};
+        int[] held = {1, 1, 0, 0, 0, 0, 0, 0};
+        for (int state = 0; state < requests.length; state++) {
+            int request = requests[state];
+            PathReservations net = Nets.rich();
+            CHECKS.equal("state of " + request, net.requestValue(request, 4), state);
+            CHECKS.same("due in " + state, net.requestValue(request, 6) > 11, due[state]);
+            CHECKS.same("NONE is due in " + state, net.requestValue(request, 6) == -1, !due[state]);
+            CHECKS.same("begun in " + state, net.requestValue(request, 10) >= 0, begun[state]);
+            CHECKS.same("NONE begun in " + state, net.requestValue(request, 10) == -1, !begun[state]);
+            CHECKS.same("end in " + state, net.requestValue(request, 11) >= 0, ended[state]);
+            CHECKS.same("NONE ends in " + state, net.requestValue(request, 11) == -1, !ended[state]);
+            CHECKS.equal("place in " + state, net.placeOf(request), state < 2 ? 1 : -1);
+            CHECKS.equal("held in " + state, net.extend(request), held[state]);
+            CHECKS.same("cancel in " + state, net.cancel(request) >= 0, open[state]);
+            CHECKS.equal("cancel again in " + state, net.cancel(request), -3);
+            CHECKS.equal("then", net.requestValue(request, 4), open[state] ? 5 : state);
+            CHECKS.equal("nothing is due", net.requestValue(request, 6), -1);
+            CHECKS.equal("no place", net.placeOf(request), -1);
+            CHECKS.equal("nothing is held", net.extend(request), 0);
+            CHECKS.equal("it never becomes active", net.ticksUntilActive(request), -1);
+        }
+    }
+
+    /** Held and confirmed tickets are promised, the others are not; a held one alone can expire. */
+    private static void statesOfTickets() {
+        PathReservations net = Nets.rich();
+        int[][] promised = {{2, 5, 7}, {6}, {}, {}};
+        int[] units = {10, 6, 0, 0};
+        for (int link = 0; link < promised.length; link++) {
+            CHECKS.equal("promised units of " + link, net.linkValue(link, 5), units[link]);
+            for (int i = 0; i < promised[link].length; i++) {
+                CHECKS.equal("ticket " + i + " of " + link, net.ticketOn(link, i), promised[link][i]);
+            }
+            CHECKS.equal("no more on " + link, net.ticketOn(link, promised[link].length), -1);
+        }
+        int[] states = {3, 3, 1, 3, 2, 0, 1, 0};
+        for (int ticket = 0; ticket < states.length; ticket++) {
+            CHECKS.equal("state of ticket " + ticket, net.ticketValue(ticket, 5), states[ticket]);
+        }
+        for (int state = 0; state < 4; state++) {
+            CHECKS.equal("tickets in state " + state, net.ticketsInState(state), new int[] {2, 2, 1, 3}[state]);
+        }
+        CHECKS.equal("the next expiry is that of a held one", net.nextExpiry(), 15);
     }
 
     private static void fullOfRequests() {

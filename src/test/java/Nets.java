@@ -22,6 +22,29 @@ final class Nets {
         return net(TRIANGLE);
     }
 
+    /** Nine requests, of all states, eight tickets, of all states, and two links that are down; at 11. */
+    static PathReservations rich() {
+        PathReservations rich = net("hold 9;retry 6;cancel 70;" + TRIANGLE + ";link b a 3 4 1");
+        rich.setSetting(3, 40);
+        rich.setCapacity(1, 9);
+        rich.request(2, 0, 1, 1);
+        rich.request(1, 2, 1, 1);
+        rich.cancel(rich.request(0, 1, 1, 1));
+        rich.request(0, 1, 1, 40);
+        rich.request(1, 0, 1, 40);
+        rich.setSetting(0, 1);
+        rich.request(0, 1, 1, 40);
+        rich.setSetting(0, 9);
+        rich.advance(6);
+        rich.takeDown(2);
+        rich.takeDown(3);
+        rich.request(0, 2, 6, 10);
+        rich.advance(5);
+        rich.request(0, 2, 3, 9);
+        rich.request(0, 2, 9, 8);
+        return rich;
+    }
+
     static int load(PathReservations net, String text) {
         write(net, text);
         return net.load();

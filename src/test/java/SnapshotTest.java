@@ -8,7 +8,6 @@ public final class SnapshotTest {
     }
 
     public static void main(String[] args) {
-        allStates();
         slots();
         answersAreTimes();
         newObjectIsSaved();
@@ -27,54 +26,21 @@ public final class SnapshotTest {
         CHECKS.end();
     }
 
-    /** Requests in all states, tickets in all states, links that are down. */
-    private static PathReservations rich() {
-        PathReservations net = Nets.net("hold 9;retry 6;cancel 70;" + Nets.TRIANGLE + ";link b a 3 4 1");
-        net.setSetting(3, 40);
-        net.setCapacity(1, 9);
-        net.request(2, 0, 1, 1);
-        net.request(1, 2, 1, 1);
-        net.cancel(net.request(0, 1, 1, 1));
-        net.request(0, 1, 1, 40);
-        net.request(1, 0, 1, 40);
-        net.setSetting(0, 1);
-        net.request(0, 1, 1, 40);
-        net.setSetting(0, 9);
-        net.advance(6);
-        net.takeDown(2);
-        net.takeDown(3);
-        net.request(0, 2, 6, 10);
-        net.advance(5);
-        net.request(0, 2, 3, 9);
-        net.request(0, 2, 9, 8);
-        return net;
-    }
-
     /** What is told of an object that was made in the same way, so as not to use up this one's 512 calls. */
     private static String richState() {
-        return Nets.everything(rich());
-    }
-
-    private static void allStates() {
-        PathReservations net = rich();
-        for (int state = 0; state < 8; state++) {
-            CHECKS.same("a request in state " + state, net.inState(state) > 0, true);
-        }
-        for (int state = 0; state < 4; state++) {
-            CHECKS.same("a ticket in state " + state, net.ticketsInState(state) > 0, true);
-        }
+        return Nets.everything(Nets.rich());
     }
 
     private static void slots() {
         for (int slot : new int[] {-1, 2, 3, Integer.MIN_VALUE, Integer.MAX_VALUE}) {
-            PathReservations net = rich();
+            PathReservations net = Nets.rich();
             CHECKS.argument("save " + slot, () -> net.saveSnapshot(slot));
             CHECKS.argument("restore " + slot, () -> net.restoreSnapshot(slot));
             CHECKS.equal("nothing was saved in 0", net.restoreSnapshot(0), -1);
             CHECKS.equal("nothing was saved in 1", net.restoreSnapshot(1), -1);
         }
         for (int slot = 0; slot < 2; slot++) {
-            PathReservations net = rich();
+            PathReservations net = Nets.rich();
             CHECKS.equal("nothing in " + slot, net.restoreSnapshot(slot), -1);
             CHECKS.same("nothing changes", Nets.everything(net), richState());
             net.saveSnapshot(slot);
@@ -139,13 +105,13 @@ public final class SnapshotTest {
         String saved = richState();
         boolean more = true;
         for (int number = 0; more; number++) {
-            PathReservations net = rich();
+            PathReservations net = Nets.rich();
             net.saveSnapshot(number % 2);
             more = change(net, number);
             if (more) {
                 CHECKS.equal("restored", net.restoreSnapshot(number % 2), 11);
                 CHECKS.same("change " + number + " is undone", Nets.everything(net), saved);
-                PathReservations changed = rich();
+                PathReservations changed = Nets.rich();
                 change(changed, number);
                 CHECKS.same("change " + number + " is one", Nets.everything(changed).equals(saved), false);
             }
@@ -154,7 +120,7 @@ public final class SnapshotTest {
 
     /** Other numbers stood in every row before. */
     private static void otherNetIsUndone() {
-        PathReservations net = rich();
+        PathReservations net = Nets.rich();
         net.saveSnapshot(0);
         Nets.load(net, OTHER_NET);
         for (int i = 0; i < 9; i++) {
@@ -169,8 +135,8 @@ public final class SnapshotTest {
     }
 
     private static void goesOnAsBefore() {
-        PathReservations net = rich();
-        PathReservations other = rich();
+        PathReservations net = Nets.rich();
+        PathReservations other = Nets.rich();
         net.saveSnapshot(1);
         net.advance(500);
         Nets.load(net, OTHER_NET);
@@ -211,7 +177,7 @@ public final class SnapshotTest {
 
     /** The snapshot is a copy, and so is what is restored. */
     private static void copiesOnly() {
-        PathReservations net = rich();
+        PathReservations net = Nets.rich();
         net.saveSnapshot(0);
         for (int number : new int[] {0, 4, 7, 10, 14}) {
             change(net, number);
@@ -227,13 +193,13 @@ public final class SnapshotTest {
     }
 
     private static void savedOver() {
-        PathReservations net = rich();
+        PathReservations net = Nets.rich();
         net.saveSnapshot(0);
         net.advance(7);
         CHECKS.equal("saved over it", net.saveSnapshot(0), 18);
         net.advance(7);
         CHECKS.equal("the later one", net.restoreSnapshot(0), 18);
-        PathReservations later = rich();
+        PathReservations later = Nets.rich();
         later.advance(7);
         CHECKS.same("is there", Nets.everything(net), Nets.everything(later));
         Nets.load(net, "node q");
@@ -247,7 +213,7 @@ public final class SnapshotTest {
 
     private static void twoSlots() {
         for (int slot = 0; slot < 2; slot++) {
-            PathReservations net = rich();
+            PathReservations net = Nets.rich();
             net.saveSnapshot(0);
             changeTwice(net);
             net.saveSnapshot(1);
@@ -255,7 +221,7 @@ public final class SnapshotTest {
             CHECKS.equal("the other slot", net.restoreSnapshot(1 - slot), slot == 0 ? 14 : 11);
             net.advance(2);
             CHECKS.equal("slot " + slot, net.restoreSnapshot(slot), slot == 0 ? 11 : 14);
-            PathReservations due = rich();
+            PathReservations due = Nets.rich();
             if (slot == 1) {
                 changeTwice(due);
             }
@@ -270,7 +236,7 @@ public final class SnapshotTest {
     }
 
     private static void bufferIsNotSaved() {
-        PathReservations net = rich();
+        PathReservations net = Nets.rich();
         Nets.write(net, "c");
         net.saveSnapshot(0);
         CHECKS.equal("saving leaves it", net.append(0), 1);
@@ -316,7 +282,7 @@ public final class SnapshotTest {
 
     /** Promise 3: the snapshots stay, whether the text has an error or not. */
     private static void loadLeavesSnapshots() {
-        PathReservations net = rich();
+        PathReservations net = Nets.rich();
         net.saveSnapshot(0);
         net.advance(1);
         net.saveSnapshot(1);
@@ -329,7 +295,7 @@ public final class SnapshotTest {
 
     /** Promise 3: begins anew, whatever was there, was predicted or was read before an error. */
     private static void loadAfterPredictions() {
-        PathReservations net = rich();
+        PathReservations net = Nets.rich();
         net.activeWithout(0, 3);
         net.greatestNew(0, 2);
         net.stateAfter(6, 4);
@@ -343,7 +309,7 @@ public final class SnapshotTest {
             fresh.advance(3);
         }
         CHECKS.same("new requests are new", Nets.everything(net), Nets.everything(fresh));
-        PathReservations wrong = rich();
+        PathReservations wrong = Nets.rich();
         wrong.stateAfter(6, 4);
         Nets.load(wrong, "tries 1;node x;node y;link x y 1 1 1;link y x 0 0 0");
         Nets.load(wrong, Nets.TRIANGLE);
